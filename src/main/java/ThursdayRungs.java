@@ -262,7 +262,7 @@ public final class ThursdayRungs {
         return 31 * h + number;
     }
 
-    /** 0 if there is nothing to refuse: no refusal is 0. */
+    /** 0 stands for none: every refusal is below it. */
     private int refusalOf(int child, int rule) {
         if (!school.has(child)) {
             return UNKNOWN;
@@ -487,7 +487,10 @@ public final class ThursdayRungs {
 
         /** One who knows goes on knowing, so the nearest one below the top is the first to reach it. */
         int thursdaysToTop() {
-            if (size > 0 && known[top()] != NONE) {
+            if (isNone()) {
+                return NONE;
+            }
+            if (known[top()] != NONE) {
                 return 0;
             }
             for (int i = top(); i >= 0; i--) {

@@ -186,10 +186,10 @@ public final class PromisesTest {
         ThursdayRungs x = of("c3,t7,m5");
         x.tell(0, 4);
         x.tell(2, 4);
+        due("5 one is taught", x.thursday(), 1);
         x.ill(1, true);
         x.ill(2, true);
         x.hear(0, 1, 2);
-        x.thursday();
         x.image();
         write(x, "p1,e2");
         due("5 another school", x.school(), 2);

@@ -286,7 +286,7 @@ public final class ThursdayRungs {
         static int passesOn(int kind, int slip, int rule) {
             switch (kind) {
                 case PARROT: return rule;
-                case TWIN: return Math.floorMod(slip - rule, RULES);
+                case TWIN: return (slip + RULES - rule) % RULES;
                 case MUMBLER: return (rule - rule % 2 + slip) % RULES;
                 case ECHO: return 2 * rule % RULES;
                 default: return (rule + slip) % RULES;

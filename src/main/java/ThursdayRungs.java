@@ -405,13 +405,17 @@ public final class ThursdayRungs {
             heard = other.heard;
             thursdays = other.thursdays;
             timesTaught = other.timesTaught;
-            System.arraycopy(other.kinds, 0, kinds, 0, MOST);
-            System.arraycopy(other.slips, 0, slips, 0, MOST);
-            System.arraycopy(other.known, 0, known, 0, MOST);
-            System.arraycopy(other.ill, 0, ill, 0, MOST);
-            System.arraycopy(other.heardChild, 0, heardChild, 0, MOST_HEARD);
-            System.arraycopy(other.heardKnew, 0, heardKnew, 0, MOST_HEARD);
-            System.arraycopy(other.heardTaught, 0, heardTaught, 0, MOST_HEARD);
+            for (int i = 0; i < MOST; i++) {
+                kinds[i] = other.kinds[i];
+                slips[i] = other.slips[i];
+                known[i] = other.known[i];
+                ill[i] = other.ill[i];
+            }
+            for (int i = 0; i < MOST_HEARD; i++) {
+                heardChild[i] = other.heardChild[i];
+                heardKnew[i] = other.heardKnew[i];
+                heardTaught[i] = other.heardTaught[i];
+            }
         }
 
         int taughtNowBy(int child) {

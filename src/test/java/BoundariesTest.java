@@ -933,6 +933,28 @@ public final class BoundariesTest {
         full.restore();
         due("hear()", full.hear(0, 0, 0), FULL);
         due("count(7)", full.count(7), 8);
+        imageKeepsEachThatIsHeard();
+    }
+
+    /** Only one of the eight tells a SLIP, so that it shows if that one is lost or mixed up. */
+    private static void imageKeepsEachThatIsHeard() {
+        sentence("An IMAGE keeps HEARD (8 at most), from the first one to the last");
+        for (int telling = 0; telling < 8; telling++) {
+            ThursdayRungs x = of("c1,p2,t3");
+            for (int i = 0; i < 8; i++) {
+                due("hear()", i == telling ? x.hear(2, 4, 0) : x.hear(1, i, i), i + 1);
+            }
+            due("image()", x.image(), 0);
+            x.forget();
+            for (int i = 0; i < 8; i++) {
+                x.hear(0, 11, 11);
+            }
+            due("restore() with number " + telling + " telling", x.restore(), 0);
+            due("child(0, 5)", x.child(0, 5), ALL_SLIPS);
+            due("child(1, 5)", x.child(1, 5), ALL_SLIPS);
+            due("child(2, 5)", x.child(2, 5), 1 << 4);
+            due("count(7)", x.count(7), 8);
+        }
     }
 
     private static void imageKeeps() {

@@ -4,7 +4,7 @@ import java.lang.reflect.Method;
 import java.lang.reflect.Modifier;
 import java.util.TreeSet;
 
-/** The class shows the document's face and nothing else. */
+/** The class shows the document's face and nothing else, and its members are as LANGUAGE.md wants them. */
 public final class FaceTest {
     private static final String[] FACE = {
         "public ThursdayRungs()",
@@ -24,18 +24,59 @@ public final class FaceTest {
         "public int ThursdayRungs.thursday()", "public long ThursdayRungs.digest()",
     };
 
+    private static boolean right = true;
+
+    private static void due(String what, boolean holds) {
+        if (!holds) {
+            right = false;
+            System.out.println("not so: " + what);
+        }
+    }
+
     public static void main(String[] args) {
         TreeSet<String> due = new TreeSet<>();
         for (String member : FACE) {
             due.add(member);
         }
         TreeSet<String> shown = shownMembers(ThursdayRungs.class);
+        due("the face is " + due + ", but " + shown + " is shown", due.equals(shown));
         int modifiers = ThursdayRungs.class.getModifiers();
-        boolean right = due.equals(shown) && Modifier.isPublic(modifiers) && Modifier.isFinal(modifiers);
-        System.out.println(right ? "the face is as due" : "the face is " + shown + ", due is " + due);
+        due("the class is public and final", Modifier.isPublic(modifiers) && Modifier.isFinal(modifiers));
+        noPrivateMethodBearsAPublicName();
+        staticFieldsAreFinal(ThursdayRungs.class);
+        for (Class<?> inside : ThursdayRungs.class.getDeclaredClasses()) {
+            classInside(inside);
+        }
+        System.out.println(right ? "the face is as due" : "the face is not as due");
         if (!right) {
             System.exit(1);
         }
+    }
+
+    private static void noPrivateMethodBearsAPublicName() {
+        TreeSet<String> publicNames = new TreeSet<>();
+        for (Method method : ThursdayRungs.class.getMethods()) {
+            publicNames.add(method.getName());
+        }
+        for (Method method : ThursdayRungs.class.getDeclaredMethods()) {
+            due("private " + method.getName() + " has a name of its own",
+                !Modifier.isPrivate(method.getModifiers()) || !publicNames.contains(method.getName()));
+        }
+    }
+
+    private static void staticFieldsAreFinal(Class<?> type) {
+        for (Field field : type.getDeclaredFields()) {
+            int modifiers = field.getModifiers();
+            due("static " + field + " is final", !Modifier.isStatic(modifiers) || Modifier.isFinal(modifiers));
+        }
+    }
+
+    private static void classInside(Class<?> type) {
+        int modifiers = type.getModifiers();
+        due(type + " is static", Modifier.isStatic(modifiers));
+        due(type + " is neither public nor protected",
+            !Modifier.isPublic(modifiers) && !Modifier.isProtected(modifiers));
+        staticFieldsAreFinal(type);
     }
 
     private static TreeSet<String> shownMembers(Class<?> type) {

@@ -39,6 +39,7 @@ public final class PromisesTest {
         count();
         digest();
         refusalsChangeNothing();
+        exampleOfReadme();
         System.out.println(wrong == 0 ? "all answers are as due" : wrong + " answers are not as due");
         if (wrong != 0) {
             System.exit(1);
@@ -384,6 +385,8 @@ public final class PromisesTest {
         due("14 none", x.from(0, 3), 0);
         due("14 from(1, 0)", x.from(1, 0), 0b1000001);
         due("14 from the top", x.from(2, 11), 1 << 11);
+        x.tell(0, 2);
+        due("14 what it knows does not matter", x.from(0, 2), 0b11000011);
         x.ill(1, true);
         due("14 illness does not matter", x.from(0, 2), 0b11000011);
         due("14 UNKNOWN first", x.from(3, 12), UNKNOWN);
@@ -487,6 +490,14 @@ public final class PromisesTest {
         due("17 OUTSIDE ahead of FULL", x.hear(0, 0, 12), OUTSIDE);
         due("17 UNKNOWN ahead of FULL", x.hear(2, 0, 0), UNKNOWN);
         due("17 eight", x.count(7), 8);
+        ThursdayRungs y = of("c3,t7");
+        y.tell(0, 4);
+        y.hear(0, 1, 5);
+        y.hear(1, 1, 5);
+        due("17 what it knows stays", y.child(0, 2), 4);
+        due("17 nor does it know by that", y.child(1, 2), NONE);
+        due("17 its slip stays", y.child(0, 1), 3);
+        due("17 heard twice is two", y.hear(1, 1, 5), 3);
     }
 
     private static void slipsAndAsk() {
@@ -525,6 +536,17 @@ public final class PromisesTest {
         due("18 none", x.count(7), 0);
         due("18 heard anew", x.hear(0, 0, 3), 1);
         due("18 slips by it alone", x.child(0, 5), 1 << 3);
+        x.tell(0, 4);
+        x.thursday();
+        x.ill(1, true);
+        x.image();
+        due("18 one", x.forget(), 1);
+        int[] counts = {2, 2, 2, 1, 1, 1};
+        for (int what = 0; what <= 5; what++) {
+            due("18 count(" + what + ") stays", x.count(what), counts[what]);
+        }
+        due("18 the image stays", x.restore(), 1);
+        due("18 one is heard again", x.count(7), 1);
     }
 
     private static void terms() {
@@ -713,5 +735,16 @@ public final class PromisesTest {
         x.count(10);
         x.cure(2);
         due("refusals change nothing", x.digest(), before);
+    }
+
+    private static void exampleOfReadme() {
+        ThursdayRungs x = page("c3,t7,m5");
+        due("README school", x.school(), 3);
+        due("README tell", x.tell(0, 5), NONE);
+        due("README soon", x.soon(), 2);
+        due("README thursday", x.thursday(), 1);
+        due("README child", x.child(1, 2), 8);
+        due("README arrives", x.arrives(0, 5), 11);
+        due("README refused", x.tell(0, 12), OUTSIDE);
     }
 }
